@@ -353,6 +353,8 @@ public final class VersionForks {
         /** Each instruction * HEIGHTS + height that was reached, once, in the order of finding. */
         private final int[] found = new int[BLOCK_LENGTH * HEIGHTS];
         private int foundCount;
+        /** The lowest instruction that a way reached wrongly, or one beyond all. */
+        private int lowest;
 
         /** The instruction that has the fault, or -1. */
         int faultIn(Code code, int blockCount) {
@@ -369,7 +371,7 @@ public final class VersionForks {
                 return code.length - 1;
             }
             goAllWays(code);
-            return lowestStackFault(code);
+            return lowest < code.length ? lowest : -1;
         }
 
         private static boolean isAsSaid(Code code, int place, int blockCount) {
@@ -401,11 +403,14 @@ public final class VersionForks {
                 heights[place] = 0;
             }
             foundCount = 0;
+            lowest = code.length;
             reach(code, 0, 0);
-            for (int i = 0; i < foundCount; i++) {
+            for (int i = 0; i < foundCount && i < found.length; i++) {
                 int place = found[i] / HEIGHTS;
                 int height = found[i] % HEIGHTS;
-                if (isHeightAllowed(code, place, height)) {
+                if (height < TAKES[code.operationAt(place)] || height > MOST_NUMBERS) {
+                    lowest = Math.min(lowest, place);
+                } else {
                     goOn(code, place, height);
                 }
             }
@@ -423,28 +428,16 @@ public final class VersionForks {
         }
 
         private void reach(Code code, int place, int height) {
-            if (isWithin(place, code.length) && (heights[place] >> height & 1) == 0) {
-                heights[place] |= 1 << height;
-                found[foundCount] = place * HEIGHTS + height;
-                foundCount++;
+            boolean isNew = isWithin(place, code.length) && (heights[place] >> height & 1) == 0;
+            if (!isNew || foundCount >= found.length) {
+                return;
             }
-        }
-
-        private int lowestStackFault(Code code) {
-            for (int place = 0; place < code.length; place++) {
-                int reached = heights[place];
-                if (Integer.bitCount(reached) > 1) {
-                    return place;
-                }
-                if (reached != 0 && !isHeightAllowed(code, place, Integer.numberOfTrailingZeros(reached))) {
-                    return place;
-                }
+            if (heights[place] != 0) {
+                lowest = Math.min(lowest, place);
             }
-            return -1;
-        }
-
-        private static boolean isHeightAllowed(Code code, int place, int height) {
-            return height >= TAKES[code.operationAt(place)] && height <= MOST_NUMBERS;
+            heights[place] |= 1 << height;
+            found[foundCount] = place * HEIGHTS + height;
+            foundCount++;
         }
     }
 
