@@ -9,6 +9,10 @@ import java.util.List;
 
 /** Tests of which each holds one sentence of the document, told by Says. */
 abstract class Sentences extends Checks {
+    static final int[] ENDLESS = code(JUMP, 0);
+    /** Joins the task that it has just forked, and ends with its result. */
+    static final int[] FORK_1_AND_JOIN = code(PUSH, 0, FORK, 1, JOIN, 0, END, 0);
+
     private static final Path DOCUMENT = Path.of("../shared/DOC.md");
 
     /** Found by what they say, so that none is forgotten. */
@@ -74,5 +78,27 @@ abstract class Sentences extends Checks {
         int low = (int) value;
         int high = (int) ((value - low) >> 32);
         return code(PUSH, high, PUSH, 1 << 16, DUP, 0, MUL, 0, MUL, 0, PUSH, low, ADD, 0);
+    }
+
+    static VersionForks ran(int[]... blocks) {
+        VersionForks x = started(blocks);
+        x.run(0);
+        return x;
+    }
+
+    static long resultOf(int[]... parts) {
+        return resultOf(all(parts));
+    }
+
+    /** Steps of a task that never ends, in few calls. */
+    static void go(VersionForks x, int task, int n) {
+        for (int left = n; left > 0; left -= 200) {
+            x.step(task, Math.min(left, 200));
+        }
+    }
+
+    static void dueTask(String what, VersionForks x, int task, int status, int code) {
+        due(what + ": status of task " + task, x.task(task, 0), status);
+        due(what + ": code of task " + task, x.task(task, 1), code);
     }
 }
