@@ -6,8 +6,6 @@ public final class JoinEdgeTests extends Sentences {
         holdAll(JoinEdgeTests.class);
     }
 
-    // Promise 10: joins
-
     @Says(promise = 10, text = "TASKS are numbered by the order in which they are forked, the first one is 0 (block"
             + " 0, local 0 is 0).")
     static void tasksAreNumberedByTheirForks() {
@@ -52,9 +50,8 @@ public final class JoinEdgeTests extends Sentences {
     @Says(promise = 10, text = "1 a JOIN of a number that is no task that was forked by this task, or by one that"
             + " it joined (directly or in further steps)")
     static void aTaskOfOneThatItDidNotJoinYet() {
-        VersionForks x = started(code(PUSH, 0, FORK, 1, POP, 0, PUSH, 2, JOIN, 0, END, 0), code(PUSH, 0, FORK, 2, END,
-                0),
-                JUST_END);
+        VersionForks x = started(code(PUSH, 0, FORK, 1, POP, 0, PUSH, 2, JOIN, 0, END, 0),
+                code(PUSH, 0, FORK, 2, END, 0), JUST_END);
         x.step(0, 4);
         x.step(1, 9);
         x.step(2, 9);
@@ -65,16 +62,14 @@ public final class JoinEdgeTests extends Sentences {
     @Says(promise = 10, text = "(directly or in further steps)")
     static void tasksThatItGotByJoins() {
         int[] ends = code(PUSH, 44, END, 0);
-        VersionForks directly = ran(code(PUSH, 0, FORK, 1, JOIN, 0, JOIN, 0, END, 0), code(PUSH, 0, FORK, 2, END,
-                0), ends);
+        int[] joinsTwo = code(PUSH, 0, FORK, 1, JOIN, 0, JOIN, 0, END, 0);
+        int[] forks2 = code(PUSH, 0, FORK, 2, END, 0);
+        int[] forks3 = code(PUSH, 0, FORK, 3, END, 0);
+        VersionForks directly = ran(joinsTwo, forks2, ends);
         due("forked by one that it joined", directly.print(0, -1), 44);
-        VersionForks one = ran(code(PUSH, 0, FORK, 1, JOIN, 0, JOIN, 0, END, 0), code(PUSH, 0, FORK, 2, JOIN, 0, END,
-                0),
-                code(PUSH, 0, FORK, 3, END, 0), ends);
+        VersionForks one = ran(joinsTwo, code(PUSH, 0, FORK, 2, JOIN, 0, END, 0), forks3, ends);
         due("forked by one that was joined by one that it joined", one.print(0, -1), 44);
-        VersionForks three = ran(code(PUSH, 0, FORK, 1, JOIN, 0, JOIN, 0, JOIN, 0, END, 0), code(PUSH, 0, FORK, 2,
-                END, 0),
-                code(PUSH, 0, FORK, 3, END, 0), ends);
+        VersionForks three = ran(code(PUSH, 0, FORK, 1, JOIN, 0, JOIN, 0, JOIN, 0, END, 0), forks2, forks3, ends);
         due("one behind the other", three.print(0, -1), 44);
         due("all are joined", three.count(0), 1);
     }
@@ -183,10 +178,9 @@ public final class JoinEdgeTests extends Sentences {
 
     @Says(promise = 10, text = "What fails has no other effect (it counts as a step)")
     static void aJoinWithTooManyPrintsHasNoOtherEffect() {
-        VersionForks x = started(code(PUSH, 9, PRINT, 0, PUSH, 0, FORK, 1, JOIN, 0, END, 0), all(code(PUSH, 4, WRITE,
-                2),
-                code(PUSH, 30, STORE, 1, LOAD, 1, ZERO, 12, LOAD, 1, PRINT, 0, LOAD, 1, PUSH, -1, ADD, 0, JUMP, 3),
-                code(PUSH, 5, END, 0)));
+        VersionForks x = started(code(PUSH, 9, PRINT, 0, PUSH, 0, FORK, 1, JOIN, 0, END, 0),
+                code(PUSH, 4, WRITE, 2, PUSH, 30, STORE, 1, LOAD, 1, ZERO, 12, LOAD, 1, PRINT, 0, LOAD, 1, PUSH, -1,
+                        ADD, 0, JUMP, 3, PUSH, 5, END, 0));
         x.run(0);
         dueTask("the joiner", x, 0, 2, 4);
         dueTask("the other is not joined", x, 1, 1, 0);
@@ -217,9 +211,10 @@ public final class JoinEdgeTests extends Sentences {
     @Says(promise = 10, text = "it brings, for each cell that was written in the joined task's segments above that"
             + " in which it was forked (joins counted as writes")
     static void onlyWhatWasWrittenIsBrought() {
-        VersionForks x = ran(code(PUSH, 1, WRITE, 0, PUSH, 1, WRITE, 1, PUSH, 0, FORK, 1, PUSH, 2, WRITE, 0, PUSH, 2,
-                WRITE,
-                1, JOIN, 0, END, 0), code(READ, 0, WRITE, 0, READ, 1, END, 0));
+        VersionForks x = ran(
+                code(PUSH, 1, WRITE, 0, PUSH, 1, WRITE, 1, PUSH, 0, FORK, 1, PUSH, 2, WRITE, 0, PUSH, 2, WRITE, 1,
+                        JOIN, 0, END, 0),
+                code(READ, 0, WRITE, 0, READ, 1, END, 0));
         due("written with what it was", x.read(0, 0), 1);
         due("read alone", x.read(0, 1), 2);
         due("brought", x.count(2), 1);

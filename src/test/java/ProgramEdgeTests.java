@@ -261,6 +261,15 @@ public final class ProgramEdgeTests extends Sentences {
         due("behind reset", x.merge(), 0);
     }
 
+    @Says(promise = 4, text = "A new merge begins: its number.")
+    static void blocksDoNotChangeTheNumbersOfMerges() {
+        VersionForks x = new VersionForks();
+        due("block", x.block(), 0);
+        due("merge", x.merge(), 0);
+        due("block", x.block(), 1);
+        due("merge", x.merge(), 1);
+    }
+
     @Says(promise = 4, text = "MERGES (for kind 3) are at most 2, each of at most 12 instructions")
     static void aFullMergeGives() {
         VersionForks x = new VersionForks();
@@ -607,12 +616,12 @@ public final class ProgramEdgeTests extends Sentences {
         due("the last one itself is of the first sort", faultOf(code(PUSH, 0, LOAD, 4)), 1);
         due("two of the first sort", faultOf(code(PUSH, 0, LOAD, 4, READ, 12, END, 0)), 1);
         due("two of the third", faultOf(code(PUSH, 0, ADD, 0, PUSH, 0, ADD, 0, POP, 0, POP, 0, END, 0)), 1);
-        due("the lowest of the third, found last", faultOf(code(JUMP, 2, POP, 0, PUSH, 0, ZERO, 5, ADD, 0, JUMP, 1)),
-                1);
+        due("the lowest of the third, found last",
+                faultOf(code(JUMP, 2, POP, 0, PUSH, 0, ZERO, 5, ADD, 0, JUMP, 1)), 1);
     }
 
-    @Says(promise = 7, text = "all ways are gone that a block has, both ones of ZERO, from its first instruction with no"
-            + " numbers")
+    @Says(promise = 7, text = "all ways are gone that a block has, both ones of ZERO, from its first instruction with"
+            + " no numbers")
     static void allWaysAreGone() {
         due("ZERO of a 0 goes on, too", faultOf(code(PUSH, 0, ZERO, 4, ADD, 0, END, 0, PUSH, 0, END, 0)), 2);
         due("ZERO of a 1 goes there, too", faultOf(code(PUSH, 1, ZERO, 4, PUSH, 0, END, 0, ADD, 0, END, 0)), 4);

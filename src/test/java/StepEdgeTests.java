@@ -74,8 +74,24 @@ public final class StepEdgeTests extends Sentences {
         for (long x : new long[] {0, -1, 1L << 32, Long.MIN_VALUE, Long.MAX_VALUE}) {
             due("x " + x, ran(all(number(x), code(FORK, 1, JOIN, 0, END, 0)), child).print(0, -1), x);
         }
-        due("it takes x and puts the number", ran(code(PUSH, 5, PUSH, 6, FORK, 1, ADD, 0, END,
-                0), child).print(0, -1), 6);
+        VersionForks x = ran(code(PUSH, 5, PUSH, 6, FORK, 1, ADD, 0, END, 0), child);
+        due("it takes x and puts the number", x.print(0, -1), 6);
+    }
+
+    @Says(promise = 9, text = "14 JOIN (takes the number of a task; puts its RESULT).")
+    static void joinPutsTheResultAlone() {
+        int[] child = all(number(Long.MIN_VALUE), code(END, 0));
+        due("all bits of it", ran(FORK_1_AND_JOIN, child).print(0, -1), Long.MIN_VALUE);
+        VersionForks x = ran(code(PUSH, 5, PUSH, 6, FORK, 1, JOIN, 0, ADD, 0, END, 0), code(PUSH, 9, END, 0));
+        due("it takes the number", x.print(0, -1), 14);
+    }
+
+    @Says(promise = 9, text = "15 PRINT (takes). 16 END (takes the task's result). 17 DUP. 18 POP.")
+    static void whatLiesBelowStays() {
+        due("below PRINT", resultOf(code(PUSH, 5, PUSH, 6, PRINT, 0, END, 0)), 5);
+        due("below END", resultOf(code(PUSH, 5, PUSH, 6, END, 0)), 6);
+        due("below DUP", resultOf(code(PUSH, 5, PUSH, 6, DUP, 0, POP, 0, POP, 0, END, 0)), 5);
+        due("below POP", resultOf(code(PUSH, 5, PUSH, 6, POP, 0, END, 0)), 5);
     }
 
     @Says(promise = 9, text = "13 FORK a (takes x; a new task in block a, with x in its local 0: puts its number).")
@@ -301,9 +317,8 @@ public final class StepEdgeTests extends Sentences {
     @Says(promise = 10, text = "by 0 always the task with the greatest number that can go on (one whose JOIN would"
             + " not wait)")
     static void byZeroTheGreatestGoes() {
-        VersionForks x = started(code(PUSH, 0, FORK, 1, PUSH, 0, FORK, 2, END, 0), code(PUSH, 0, FORK, 2, JOIN, 0,
-                END, 0),
-                JUST_END);
+        VersionForks x = started(code(PUSH, 0, FORK, 1, PUSH, 0, FORK, 2, END, 0),
+                code(PUSH, 0, FORK, 2, JOIN, 0, END, 0), JUST_END);
         due("all go ahead of task 0", x.run(0), 5 + 4 + 2 + 2);
         dueTask("task 1", x, 1, 1, 0);
         dueTask("task 2 is that of task 1", x, 2, 3, 0);
@@ -366,6 +381,17 @@ public final class StepEdgeTests extends Sentences {
             for (int task = 0; task < 3; task++) {
                 due("steps of task " + task + " by " + seed, x.task(task, 3), steps[task]);
             }
+        }
+    }
+
+    @Says(promise = 10, text = "a number r is seed at first")
+    static void eachCallBeginsWithItsSeed() {
+        VersionForks x = program(code(PUSH, 0, FORK, 1, PUSH, 0, FORK, 2, JOIN, 0, END, 0), ENDLESS,
+                code(PUSH, 1, POP, 0, PUSH, 2, END, 0));
+        for (int i = 0; i < 3; i++) {
+            x.start();
+            x.run(77);
+            due("steps of task 1, time " + i, x.task(1, 3), stepsBy(77)[1]);
         }
     }
 

@@ -154,9 +154,9 @@ public final class ToldEdgeTests extends Sentences {
     @Says(promise = 13, text = "what was written to it last in its segment, or else in the one below, and so on; 0"
             + " if nowhere.")
     static void whatATaskReads() {
-        VersionForks x = started(code(PUSH, 5, WRITE, 0, PUSH, 6, WRITE, 0, PUSH, 0, FORK, 1, PUSH, 0, WRITE, 0,
-                JOIN, 0, END,
-                0), code(PUSH, 0, FORK, 2, PUSH, 9, WRITE, 0, JOIN, 0, END, 0), code(READ, 0, END, 0));
+        VersionForks x = started(
+                code(PUSH, 5, WRITE, 0, PUSH, 6, WRITE, 0, PUSH, 0, FORK, 1, PUSH, 0, WRITE, 0, JOIN, 0, END, 0),
+                code(PUSH, 0, FORK, 2, PUSH, 9, WRITE, 0, JOIN, 0, END, 0), code(READ, 0, END, 0));
         due("nowhere", x.read(0, 0), 0);
         x.step(0, 2);
         due("written", x.read(0, 0), 5);
@@ -234,10 +234,10 @@ public final class ToldEdgeTests extends Sentences {
 
     @Says(promise = 14, text = "A joined task's prints come behind those of the joiner so far, in their order.")
     static void joinedPrintsComeBehind() {
-        VersionForks x = program(code(PUSH, 10, PRINT, 0, PUSH, 1, FORK, 1, PUSH, 2, FORK, 1, JOIN, 0, PRINT, 0,
-                JOIN, 0,
-                PRINT, 0, PUSH, 0, END, 0), code(LOAD, 0, PRINT, 0, LOAD, 0, PUSH, 50, ADD, 0, PRINT, 0, LOAD, 0, END,
-                0));
+        VersionForks x = program(
+                code(PUSH, 10, PRINT, 0, PUSH, 1, FORK, 1, PUSH, 2, FORK, 1, JOIN, 0, PRINT, 0, JOIN, 0, PRINT, 0,
+                        PUSH, 0, END, 0),
+                code(LOAD, 0, PRINT, 0, LOAD, 0, PUSH, 50, ADD, 0, PRINT, 0, LOAD, 0, END, 0));
         long[] due = {10, 2, 52, 2, 1, 51, 1};
         for (int seed = -2; seed < 4; seed++) {
             x.start();
@@ -316,8 +316,7 @@ public final class ToldEdgeTests extends Sentences {
     @Says(promise = 15, text = "1: how many cells are written in them, all together")
     static void cellsAreCountedOncePerSegment() {
         VersionForks x = started(code(PUSH, 5, WRITE, 0, PUSH, 0, WRITE, 0, PUSH, 0, WRITE, 11, PUSH, 0, FORK, 1,
-                PUSH, 6,
-                WRITE, 0, JUMP, 10), JUST_END);
+                PUSH, 6, WRITE, 0, JUMP, 10), JUST_END);
         due("none", x.count(1), 0);
         x.step(0, 2);
         due("one", x.count(1), 1);
@@ -344,8 +343,8 @@ public final class ToldEdgeTests extends Sentences {
     @Says(promise = 15, text = "one that is not that of a task (of those not joined), nor that in which one of"
             + " these was forked")
     static void whatIsNeededStays() {
-        VersionForks x = started(code(PUSH, 0, FORK, 1, PUSH, 0, FORK, 2, END, 0), JUST_END, code(PUSH, 9, JOIN, 0,
-                END, 0));
+        VersionForks x = started(code(PUSH, 0, FORK, 1, PUSH, 0, FORK, 2, END, 0), JUST_END,
+                code(PUSH, 9, JOIN, 0, END, 0));
         due("at first", x.count(0), 1);
         x.step(0, 2);
         due("one fork", x.count(0), 3);
@@ -378,10 +377,8 @@ public final class ToldEdgeTests extends Sentences {
     private static VersionForks tower(int first, int second, int third) {
         VersionForks x = program(
                 code(PUSH, 10, WRITE, 0, PUSH, 11, WRITE, 1, PUSH, 0, FORK, 1, PUSH, 20, WRITE, 0, PUSH, 0, FORK, 1,
-                PUSH, 30,
-                        WRITE, 2, PUSH, 0, FORK, 1, PUSH, first, JOIN, 0, PUSH, second, JOIN, 0, PUSH, third, JOIN, 0,
-                        POP,
-                        0, END, 0),
+                        PUSH, 30, WRITE, 2, PUSH, 0, FORK, 1, PUSH, first, JOIN, 0, PUSH, second, JOIN, 0,
+                        PUSH, third, JOIN, 0, POP, 0, END, 0),
                 code(READ, 0, PUSH, 1, ADD, 0, WRITE, 0, PUSH, 0, END, 0));
         x.cell(0, 1, 0);
         x.start();
