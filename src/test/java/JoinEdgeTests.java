@@ -59,6 +59,32 @@ public final class JoinEdgeTests extends Sentences {
         dueTask("both ended", x, 0, 2, 1);
     }
 
+    @Says(promise = 10, text = "1 a JOIN of a number that is no task that was forked by this task, or by one that"
+            + " it joined (directly or in further steps)")
+    static void aTaskOfTheRunBefore() {
+        VersionForks x = started(code(PUSH, 0, FORK, 1, PUSH, 0, FORK, 1, JOIN, 0, END, 0),
+                code(PUSH, 0, FORK, 2, POP, 0, PUSH, 3, JOIN, 0, END, 0), JUST_END);
+        x.step(0, 4);
+        x.step(1, 2);
+        x.step(3, 2);
+        due("3 was forked by 1", x.task(3, 2), 1);
+        due("and is joined by it", x.step(1, 9), 4);
+        x.start();
+        x.step(0, 2);
+        due("3 is not there", x.step(1, 9), 5);
+        dueTask("3 is not there", x, 1, 2, 1);
+    }
+
+    @Says(promise = 10, text = "1 a JOIN of a number that is no task that was forked by this task, or by one that"
+            + " it joined (directly or in further steps)")
+    static void aNumberBeyondTwelveTasks() {
+        VersionForks x = started(code(PUSH, 0, FORK, 1, PUSH, 11, SUB, 0, ZERO, 6, JUMP, 0, PUSH, 12, JOIN, 0, END, 0),
+                JUST_END);
+        x.run(0);
+        due("tasks", x.tasks(), 12);
+        dueTask("JOIN of 12", x, 0, 2, 1);
+    }
+
     @Says(promise = 10, text = "(directly or in further steps)")
     static void tasksThatItGotByJoins() {
         int[] ends = code(PUSH, 44, END, 0);

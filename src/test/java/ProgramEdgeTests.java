@@ -3,6 +3,7 @@ import java.io.IOException;
 /** Promises 1 to 8: each sentence that names an edge of the calls that make, check and start a program. */
 public final class ProgramEdgeTests extends Sentences {
     private static final int[] TAKES = {0, 0, 1, 0, 1, 2, 2, 2, 2, 2, 2, 0, 1, 1, 1, 1, 1, 1, 1};
+    private static final int[] PUTS = {1, 1, 0, 1, 0, 1, 1, 1, 1, 1, 1, 0, 0, 1, 1, 0, 0, 2, 0};
     private static final int[] NO_NUMBERS = {Integer.MIN_VALUE, -1};
 
     public static void main(String[] args) throws IOException, IllegalAccessException {
@@ -384,6 +385,9 @@ public final class ProgramEdgeTests extends Sentences {
         due("the program can be changed", x.add(END, 0), 3);
         x.start();
         due("now it runs", x.tasks(), 1);
+        VersionForks y = program(code(END, 0));
+        due("the least fault", y.fault(), 0);
+        refused("start with it", ARGUMENT, start(y));
     }
 
     @Says(promise = 6, text = "the program has a fault (fault() tells it), there is no block, or a cell's merge is not"
@@ -413,8 +417,11 @@ public final class ProgramEdgeTests extends Sentences {
             + " there.")
     static void withoutACellsMergeNothingStarts() {
         VersionForks x = program(JUST_END);
-        x.cell(11, 3, 0);
-        refused("without merge 0", ARGUMENT, start(x));
+        for (int cell = 0; cell < 12; cell++) {
+            x.cell(cell, 3, 0);
+            refused("without the merge of cell " + cell, ARGUMENT, start(x));
+            x.cell(cell, 0, 0);
+        }
         x.merge();
         fill(x, LOAD, 0, END, 0);
         x.cell(11, 3, 1);
@@ -443,6 +450,21 @@ public final class ProgramEdgeTests extends Sentences {
         due("cell 1", x.read(0, 1), 0);
         refused("result", ELEMENT, () -> x.print(0, -1));
         refused("task 1", ELEMENT, () -> x.task(1, 0));
+    }
+
+    @Says(promise = 6, text = "A run begins with task 0 (one that was before is forgotten).")
+    static void segmentsThatWereNotLaidTogetherAreForgotten() {
+        VersionForks x = started(code(PUSH, 3, WRITE, 0, PUSH, 0, FORK, 0, POP, 0, JUMP, 0));
+        x.run(0);
+        due("segments of 12 tasks", x.count(0), 23);
+        due("a cell in each of them", x.count(1), 23);
+        x.start();
+        for (int steps = 1; steps <= 4; steps++) {
+            x.step(0, 1);
+            due("segments behind step " + steps, x.count(0), steps < 4 ? 1 : 3);
+            due("cells behind step " + steps, x.count(1), steps < 2 ? 0 : 1);
+        }
+        due("the new task reads what is of this run", x.read(1, 0), 3);
     }
 
     @Says(promise = 6, text = "A run begins with task 0 (one that was before is forgotten).")
@@ -580,6 +602,21 @@ public final class ProgramEdgeTests extends Sentences {
         }
     }
 
+    @Says(promise = 7, text = "(take y, then x below it; put x op y, for LESS 1 or 0)")
+    static void eachOperationPutsWhatIsSaid() {
+        for (int operation = 0; operation <= 18; operation++) {
+            if (operation != JUMP && operation != END) {
+                int[] begin = all(times(TAKES[operation], PUSH, 0), code(operation, 0));
+                int behind = TAKES[operation] + 1 + PUTS[operation];
+                int[] end = code(PUSH, 0, END, 0);
+                due("operation " + operation + " and as many POP as it puts",
+                        faultOf(all(begin, times(PUTS[operation], POP, 0), end)), -1);
+                due("operation " + operation + " and one POP more",
+                        faultOf(all(begin, times(PUTS[operation] + 1, POP, 0), end)), behind);
+            }
+        }
+    }
+
     @Says(promise = 7, text = "or with more than 6 (before it)")
     static void sixNumbersAreEnough() {
         for (int operation : code(PUSH, LOAD, READ, DUP)) {
@@ -660,6 +697,8 @@ public final class ProgramEdgeTests extends Sentences {
         for (int place : all(NO_NUMBERS, code(0, 1, 4, 5, Integer.MAX_VALUE))) {
             due("to " + place, faultOfMerge(PUSH, 0, ZERO, place, PUSH, 0, END, 0), 1001);
         }
+        due("to itself where no way comes", faultOfMerge(PUSH, 0, END, 0, ZERO, 2, PUSH, 0, END, 0), 1002);
+        due("back where no way comes", faultOfMerge(PUSH, 0, END, 0, ZERO, 0, PUSH, 0, END, 0), 1002);
     }
 
     @Says(promise = 7, text = "last an END")

@@ -100,6 +100,7 @@ public final class ToldEdgeTests extends Sentences {
         due("twelve tasks", x.tasks(), 12);
         dueTask("twelve tasks", x, 0, 0, 0);
         due("segments", x.count(0), 23);
+        due("cells", x.count(1), 0);
         due("one more", x.step(0, 200), 2);
         dueTask("one more", x, 0, 2, 3);
         due("it counts as a step", x.task(0, 3), 46);
