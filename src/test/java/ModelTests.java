@@ -8,7 +8,10 @@ import java.util.Set;
 import java.util.TreeMap;
 import java.util.TreeSet;
 
-/** Compares the class with a plain model of the document, and orders of steps with one another. */
+/**
+ * Compares the class with a plain model of the document, and orders of steps with one another. It asks an object more
+ * than the 512 times that are promised, as the class has no such bound: a comparison behind each call needs them.
+ */
 public final class ModelTests {
     private static final int PUSH = 0, LOAD = 1, STORE = 2, READ = 3, WRITE = 4, ADD = 5, LESS = 10, JUMP = 11,
             ZERO = 12, FORK = 13, JOIN = 14, PRINT = 15, END = 16, DUP = 17, POP = 18;

@@ -665,6 +665,9 @@ public final class ProgramEdgeTests extends Sentences {
         due("what no way reaches is free", faultOf(code(PUSH, 0, END, 0, ADD, 0, END, 0)), -1);
         due("behind JUMP no way goes on", faultOf(code(JUMP, 2, ADD, 0, PUSH, 0, END, 0)), -1);
         due("arguments are looked at everywhere", faultOf(code(PUSH, 0, END, 0, LOAD, 4, END, 0)), 2);
+        // The lower one of the two that a full block reaches with other numbers is found with the last instruction.
+        due("a long way round, twice", faultOf(all(code(JUMP, 2, JUMP, 1, PUSH, 0), times(9, LOAD, 0, POP, 0),
+                code(LOAD, 0, ZERO, 1, JUMP, 2))), 1);
     }
 
     @Says(promise = 7, text = "where one is reached with fewer than it takes or more than 6, that way ends.")
